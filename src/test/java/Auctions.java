@@ -1,0 +1,86 @@
+import java.util.ArrayList;
+import java.util.List;
+
+/** What the tests do with auctions again and again. */
+final class Auctions {
+    private Auctions() {
+    }
+
+    static LowWaterAuction of(String setup) {
+        LowWaterAuction auction = new LowWaterAuction();
+        feed(auction, setup);
+        auction.loadSetup();
+        return auction;
+    }
+
+    /** Puts a text into the input buffer, in place of what it holds. */
+    static void feed(LowWaterAuction auction, String text) {
+        auction.truncate(0);
+        for (int from = 0; from < text.length(); from += 20) {
+            auction.append(four(text, from), four(text, from + 4), four(text, from + 8),
+                four(text, from + 12), four(text, from + 16));
+        }
+        auction.truncate(text.length());
+    }
+
+    static int run(LowWaterAuction auction, String script) {
+        feed(auction, script);
+        return auction.runScript();
+    }
+
+    static String output(LowWaterAuction auction) {
+        StringBuilder text = new StringBuilder();
+        for (int i = 0; auction.outputByte(i) != LowWaterAuction.NONE; i++) {
+            text.append((char) auction.outputByte(i));
+        }
+        return text.toString();
+    }
+
+    static String queue(LowWaterAuction auction) {
+        List<Integer> queue = new ArrayList<>();
+        for (int i = 0; i < auction.queueLength(); i++) {
+            queue.add(auction.queuedBarrel(i));
+        }
+        return queue.toString();
+    }
+
+    static String lengths(LowWaterAuction auction, int barrel) {
+        List<Integer> lengths = new ArrayList<>();
+        for (int i = 0; i < auction.eels(barrel); i++) {
+            lengths.add(auction.length(barrel, i));
+        }
+        return lengths.toString();
+    }
+
+    /** Every answer that shows the state, but for the questions: two equal texts are two equal states. */
+    static String state(LowWaterAuction auction) {
+        StringBuilder text = new StringBuilder();
+        text.append("minute ").append(auction.minute()).append(" open ").append(auction.isOpen())
+            .append(" horn ").append(auction.minutesToHorn()).append(" step ").append(auction.step())
+            .append(" fee ").append(auction.costOf(100))
+            .append(" sellers ").append(auction.sellerCoins()).append(" house ").append(auction.houseCoins())
+            .append(" error ").append(auction.coinError())
+            .append(" barrel ").append(auction.openBarrel()).append(" bid ").append(auction.bid())
+            .append(" leader ").append(auction.leader()).append(" next ").append(auction.nextBid())
+            .append(" quiet ").append(auction.quiet()).append(" queue ").append(queue(auction));
+        for (int i = 0; i < auction.barrelCount(); i++) {
+            text.append("\nbarrel ").append(lengths(auction, i)).append(' ').append(auction.reserve(i))
+                .append(' ').append(auction.stateOf(i)).append(' ').append(auction.returns(i))
+                .append(' ').append(auction.buyerOf(i)).append(' ').append(auction.priceOf(i));
+        }
+        for (int i = 0; i < auction.buyerCount(); i++) {
+            text.append("\nbuyer ").append(auction.purse(i)).append(' ').append(auction.style(i))
+                .append(' ').append(auction.factor(i)).append(' ').append(auction.bought(i))
+                .append(' ').append(auction.nods(i));
+        }
+        return text.toString();
+    }
+
+    private static int four(String text, int from) {
+        int four = 0;
+        for (int i = from; i < from + 4; i++) {
+            four = four << 8 | (i < text.length() ? text.charAt(i) & 255 : ' ');
+        }
+        return four;
+    }
+}
