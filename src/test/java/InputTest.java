@@ -59,7 +59,6 @@ final class InputTest {
         Check.dueThrow("7 a minute too many", IllegalArgumentException.class, x::runScript);
         Check.due("4 after an error", x.errorCode(), LowWaterAuction.RANGE);
         Check.due("5 after an error", x.errorPosition(), 5);
-        Check.due("4 undo leaves the error", Auctions.run(new LowWaterAuction(), ""), 0);
         x.setStep(7);
         x.undo();
         Check.due("4 after an undo", x.errorCode(), LowWaterAuction.RANGE);

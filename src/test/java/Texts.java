@@ -1,0 +1,34 @@
+/** Texts with an error; a bar stands before the token at which the parser must stop. */
+final class Texts {
+    static final int SYNTAX = LowWaterAuction.SYNTAX;
+    static final int RANGE = LowWaterAuction.RANGE;
+    static final int LIMIT = LowWaterAuction.LIMIT;
+
+    private Texts() {
+    }
+
+    static void setupError(LowWaterAuction auction, int code, String marked) {
+        error("6 setup ", auction, code, marked, auction::loadSetup);
+    }
+
+    static void scriptError(LowWaterAuction auction, int code, String marked) {
+        error("7 script ", auction, code, marked, auction::runScript);
+    }
+
+    static String times(int count, String text) {
+        return text.repeat(count);
+    }
+
+    private static void error(String what, LowWaterAuction auction, int code, String marked, Check.Call parse) {
+        int position = marked.indexOf('|');
+        String text = marked.substring(0, position) + marked.substring(position + 1);
+        String before = Auctions.state(auction);
+        Auctions.feed(auction, text);
+        Check.dueThrow(what + marked, IllegalArgumentException.class, parse);
+        Check.due(what + marked + " errorCode", auction.errorCode(), code);
+        Check.due(what + marked + " errorPosition", auction.errorPosition(), position);
+        Check.due(what + marked + " leaves the state", Auctions.state(auction), before);
+        Check.dueThrow(what + marked + " empties the buffer", IllegalArgumentException.class,
+            () -> auction.truncate(1));
+    }
+}
