@@ -60,7 +60,8 @@ public final class LowWaterAuction {
     private static final Verb[] VERBS = Verb.values();
 
     private final Market market = new Market();
-    private final Market forecast = new Market();
+    // Setups are read into it and forecasts run in it, so that the market itself stays as it is.
+    private final Market scratch = new Market();
     private final History history = new History();
     private final Market[] snapshots = new Market[SLOTS];
     private final boolean[] isSaved = new boolean[SLOTS];
@@ -109,14 +110,13 @@ public final class LowWaterAuction {
     // ---- changes
 
     public int loadSetup() throws IllegalArgumentException {
-        // The market must stay as it is until the whole text has proved good.
-        boolean good = parser.readSetup(forecast);
+        boolean good = parser.readSetup(scratch);
         parser.input.size = 0;
         if (!good) {
             throw new IllegalArgumentException("the setup has an error");
         }
         history.remember(market);
-        market.copyFrom(forecast);
+        market.copyFrom(scratch);
         return market.barrelCount;
     }
 
@@ -407,10 +407,10 @@ public final class LowWaterAuction {
         if (barrelAt(barrel).state == SOLD) {
             return 0;
         }
-        forecast.copyFrom(market);
-        Barrel awaited = forecast.barrels[barrel];
+        scratch.copyFrom(market);
+        Barrel awaited = scratch.barrels[barrel];
         for (int minutes = 1; minutes <= MAX_FORECAST; minutes++) {
-            forecast.letPass(1);
+            scratch.letPass(1);
             if (awaited.state == SOLD) {
                 return minutes;
             }
@@ -422,13 +422,13 @@ public final class LowWaterAuction {
         requireBarrel(barrel);
         requireRange(minutes, 0, MAX_FORECAST);
         foresee(market.step, minutes);
-        return forecast.barrels[barrel].buyer;
+        return scratch.barrels[barrel].buyer;
     }
 
     public int sellerCoinsAfter(int minutes) throws IllegalArgumentException {
         requireRange(minutes, 0, MAX_FORECAST);
         foresee(market.step, minutes);
-        return forecast.sellerCoins;
+        return scratch.sellerCoins;
     }
 
     public int bestStep(int minutes) throws IllegalArgumentException {
@@ -437,9 +437,9 @@ public final class LowWaterAuction {
         int most = NONE;
         for (int step = 1; step <= MAX_STEP; step++) {
             foresee(step, minutes);
-            if (forecast.sellerCoins > most) {
+            if (scratch.sellerCoins > most) {
                 best = step;
-                most = forecast.sellerCoins;
+                most = scratch.sellerCoins;
             }
         }
         return best;
@@ -509,9 +509,9 @@ public final class LowWaterAuction {
     }
 
     private void foresee(int step, int minutes) {
-        forecast.copyFrom(market);
-        forecast.step = step;
-        forecast.letPass(minutes);
+        scratch.copyFrom(market);
+        scratch.step = step;
+        scratch.letPass(minutes);
     }
 
     private Barrel barrelAt(int barrel) {
@@ -1302,7 +1302,6 @@ public final class LowWaterAuction {
                 return false;
             }
             into.first = number;
-            into.eels = 0;
             for (int count = 0; count <= MAX_EELS && (count == 0 || input.kind == InputText.NUMBER); count++) {
                 if (count == MAX_EELS) {
                     // Of several errors of one token the smallest code is told, and RANGE is the smaller one.

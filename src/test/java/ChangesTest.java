@@ -93,7 +93,9 @@ final class ChangesTest {
         Check.due("9 the minute of an idle market", x.minute(), 225);
         Check.due("9 can be undone", x.undo(), 7);
         Check.due("9 undone", x.minute(), 25);
-        Check.due("9 all barrels at once", new LowWaterAuction().passMinutes(200), 2);
+        LowWaterAuction y = new LowWaterAuction();
+        Check.due("9 all barrels at once", y.passMinutes(200), 2);
+        Check.due("9 the minute after all barrels", y.minute(), 200);
     }
 
     private static void horn() {

@@ -52,6 +52,10 @@ final class OutputTest {
         x.addBarrel(1, 1, 10);
         Check.due("61 mean length", x.meanLength(), 340.0 / 7.0);
         Check.due("62 two of four", x.soldShare(), 0.5f);
+        LowWaterAuction full = Auctions.of("market 60 60 1 1 0;buyer 99 2 999;" + "barrel 1 10 20;".repeat(20));
+        full.passMinutes(6);
+        Check.due("61 twenty barrels", full.meanLength(), 15.0);
+        Check.due("62 two of twenty", full.soldShare(), 0.1f);
         LowWaterAuction none = Auctions.of(NO_BARRELS);
         Check.due("61 no barrels", none.meanLength(), 0.0);
         Check.due("62 no barrels", none.soldShare(), 0.0f);

@@ -76,6 +76,8 @@ final class QuestionsTest {
         Check.due("55 3.0 and 3.0", x.keenestBuyer(2), 1);
         x.setTaste(1, 0, 1);
         Check.due("55 the other of equals", x.keenestBuyer(0), 3);
+        LowWaterAuction six = Auctions.of("market 5 5 1 1 0;" + "buyer 0 1 5;".repeat(5) + "buyer 0 1 6;barrel 1 10;");
+        Check.due("55 the last of six", six.keenestBuyer(0), 5);
         x.setTaste(2, 0, 1);
         x.setTaste(3, 0, 1);
         Check.due("55 worth nothing to anybody", x.keenestBuyer(0), 0);

@@ -92,7 +92,7 @@ final class ScriptTest {
     private static void syntaxErrors() {
         LowWaterAuction x = new LowWaterAuction();
         String[] marked = {
-            "|;", "|5", "   |x", "|nods 0;", "|no 0;", "|NOD 0;", "|fund 0 1;", "nod|", "nod |;", "nod |x;", "nod 0|",
+            "|;", "|5", "   |x", "|nods 0;", "|nodz 0;", "|anod 0;", "|xod 0;", "|no 0;", "|NOD 0;", "|fund 0 1;", "nod|", "nod |;", "nod |x;", "nod 0|",
             "nod 0 |0;", "nod 0;|5", "nod 0;|;", "wait 1;|market 5 5 1 1 0;", "wait|#1;", "wait 1|#;", "wait |-1;",
             "pay 0|", "pay 0 |;", "split 0|;", "split 0 1 |1;", "withdraw |x;", "withdraw 0 |0;", "barrel|;",
             "barrel 1|;", "barrel 1|", "barrel 1 10|", "barrel 1" + NINE + "|wait", "wait 1; |waitnod 0;",

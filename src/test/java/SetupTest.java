@@ -13,6 +13,7 @@ final class SetupTest {
         newObject();
         goodSetup();
         replacesState();
+        keepsNothing();
         spacing();
         edges();
         syntaxErrors();
@@ -90,6 +91,29 @@ final class SetupTest {
         Check.due("6 an error is no change", x.undo(), 2);
     }
 
+    /** A state that is put in place of another one must keep nothing of it, forecasts and wrong texts included. */
+    private static void keepsNothing() {
+        LowWaterAuction x = new LowWaterAuction();
+        x.sellerCoinsAfter(6);
+        Auctions.feed(x, "market 9 9 1 1 0;" + B + B + "barrel 7 70;barrel 8 80;barrel 9");
+        Check.dueThrow("6 wrong setup", IllegalArgumentException.class, x::loadSetup);
+        x.buyerAfter(0, 6);
+        String fresh = "market 20 12 2 5 10; buyer 200 1 50; buyer 90 2 60; buyer 300 0 1;"
+            + "barrel 20 40 55 30; barrel 50 100 90; barrel 10 15;";
+        Auctions.feed(x, fresh);
+        x.loadSetup();
+        Check.due("6 nothing of a forecast stays", Auctions.state(x), Auctions.state(new LowWaterAuction()));
+        x.addBarrel(1, 9, 99);
+        x.passMinutes(40);
+        x.undo();
+        x.undo();
+        x.addBarrel(1, 1, 20);
+        Check.due("10 a new barrel in place of an undone one", x.stateOf(3), 0);
+        Check.due("10 a new barrel in place of an undone one", x.priceOf(3), LowWaterAuction.NONE);
+        Check.due("10 a new barrel in place of an undone one", Auctions.lengths(x, 3), "[20]");
+        Check.due("10 a new barrel in place of an undone one", x.greatestLength(3), 20);
+    }
+
     private static void spacing() {
         LowWaterAuction x = new LowWaterAuction();
         String tight = "market5 5 1 1 0;buyer0 0 1;barrel1 10;";
@@ -119,11 +143,13 @@ final class SetupTest {
     private static void syntaxErrors() {
         LowWaterAuction x = new LowWaterAuction();
         String[] marked = {
-            "|", "   |", "|;", "|5", "|markets 5 5 1 1 0;", "|mar ket 5 5 1 1 0;", "|Market 5 5 1 1 0;",
+            "|", "   |", "|;", "|5", "|markets 5 5 1 1 0;", "|marke 5 5 1 1 0;", "|zarket 5 5 1 1 0;",
+            "|marketz 5 5 1 1 0;", "market|A 5 5 1 1 0;", "market|{ 5 5 1 1 0;", "market 5|/ 5 1 1 0;", "market 5|: 5 1 1 0;", "|mar ket 5 5 1 1 0;", "|Market 5 5 1 1 0;",
             "market|", "market |", "market |x", "market|;", "market |-5 5 1 1 0;", "market|\t5 5 1 1 0;",
             "market 5 5 1 1 |;", "market 5 5 1 1 0 |0;", "market 5 5 1 1 0|", "market 5 5 1 1 0|buyer",
             M + "|", M + "|barrel 1 10;", M + "|;", M + "|buyers 0 0 1;", M + "buyer 0 0 |;", M + "buyer 0 0 1|",
-            M + "buyer 0 0 1 |1;", M + B + "|nod 1;", M + B + "|;", M + B + "|1", M + B + "|barrels 1 10;",
+            M + "buyer 0 0 1 |1;", M + B + "buyer 0 0|", M + B + "|puyer 0 0 1;",
+            M + "buyer 0 0|", M + B + "buyer|", M + B + "|nod 1;", M + B + "|;", M + B + "|1", M + B + "|barrels 1 10;",
             M + B + "|market 5 5 1 1 0;", M + B + "|#", M + B + "|" + (char) 233, M + B + "|" + (char) 0,
             M + B + "barrel|", M + B + "barrel |;", M + B + "barrel 1 |;", M + B + "barrel 1|", M + B + "barrel 1 10|",
             M + B + "barrel 1 10 |x;", M + B + "barrel 1 10|, 10;",
