@@ -30,15 +30,18 @@ final class Auctions {
 
     static String output(LowWaterAuction auction) {
         StringBuilder text = new StringBuilder();
-        for (int i = 0; auction.outputByte(i) != LowWaterAuction.NONE; i++) {
-            text.append((char) auction.outputByte(i));
+        int index = 0;
+        for (int b = auction.outputByte(0); b != LowWaterAuction.NONE; b = auction.outputByte(index)) {
+            text.append((char) b);
+            index++;
         }
         return text.toString();
     }
 
     static String queue(LowWaterAuction auction) {
         List<Integer> queue = new ArrayList<>();
-        for (int i = 0; i < auction.queueLength(); i++) {
+        int length = auction.queueLength();
+        for (int i = 0; i < length; i++) {
             queue.add(auction.queuedBarrel(i));
         }
         return queue.toString();
@@ -46,7 +49,8 @@ final class Auctions {
 
     static String lengths(LowWaterAuction auction, int barrel) {
         List<Integer> lengths = new ArrayList<>();
-        for (int i = 0; i < auction.eels(barrel); i++) {
+        int eels = auction.eels(barrel);
+        for (int i = 0; i < eels; i++) {
             lengths.add(auction.length(barrel, i));
         }
         return lengths.toString();
@@ -63,12 +67,14 @@ final class Auctions {
             .append(" barrel ").append(auction.openBarrel()).append(" bid ").append(auction.bid())
             .append(" leader ").append(auction.leader()).append(" next ").append(auction.nextBid())
             .append(" quiet ").append(auction.quiet()).append(" queue ").append(queue(auction));
-        for (int i = 0; i < auction.barrelCount(); i++) {
+        int barrels = auction.barrelCount();
+        for (int i = 0; i < barrels; i++) {
             text.append("\nbarrel ").append(lengths(auction, i)).append(' ').append(auction.reserve(i))
                 .append(' ').append(auction.stateOf(i)).append(' ').append(auction.returns(i))
                 .append(' ').append(auction.buyerOf(i)).append(' ').append(auction.priceOf(i));
         }
-        for (int i = 0; i < auction.buyerCount(); i++) {
+        int buyers = auction.buyerCount();
+        for (int i = 0; i < buyers; i++) {
             text.append("\nbuyer ").append(auction.purse(i)).append(' ').append(auction.style(i))
                 .append(' ').append(auction.factor(i)).append(' ').append(auction.bought(i))
                 .append(' ').append(auction.nods(i));

@@ -4,15 +4,21 @@ final class Check {
         Object make();
     }
 
+    private static String topic = "";
     private static int wrong = 0;
 
     private Check() {
     }
 
+    /** What is printed from now on before each answer that is not as due. */
+    static void about(String newTopic) {
+        topic = newTopic;
+    }
+
     static void due(String what, Object got, Object want) {
         if (!got.equals(want)) {
             wrong++;
-            System.out.println(what + " answered " + got + ", due is " + want);
+            System.out.println(topic + what + " answered " + got + ", due is " + want);
         }
     }
 
@@ -23,7 +29,7 @@ final class Check {
         } catch (RuntimeException thrown) {
             got = thrown.getClass();
         }
-        due(what, got, want);
+        due(what, got == null ? "nothing" : got, want);
     }
 
     /** Ends the test with exit code 1 if an answer was wrong. */

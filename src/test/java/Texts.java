@@ -15,6 +15,48 @@ final class Texts {
         error("7 script ", auction, code, marked, auction::runScript);
     }
 
+    /** Each of the setups must be refused by a new object. */
+    static void badSetups(int code, String... marked) {
+        for (String text : marked) {
+            setupError(new LowWaterAuction(), code, text);
+        }
+    }
+
+    /** Each of the scripts must be refused by a new object. */
+    static void badScripts(int code, String... marked) {
+        for (String text : marked) {
+            scriptError(new LowWaterAuction(), code, text);
+        }
+    }
+
+    /** Each of the setups must be taken by a new object. */
+    static void goodSetups(String... setups) {
+        for (String setup : setups) {
+            LowWaterAuction x = new LowWaterAuction();
+            Auctions.feed(x, setup);
+            try {
+                x.loadSetup();
+            } catch (IllegalArgumentException refused) {
+                Check.due("setup " + setup, "error at " + x.errorPosition(), "no error");
+            }
+            Check.due("setup " + setup + " errorCode", x.errorCode(), 0);
+        }
+    }
+
+    /** Each of the scripts must be taken by a new object, and so many commands of it be executed. */
+    static void goodScripts(int executed, String... scripts) {
+        for (String script : scripts) {
+            LowWaterAuction x = new LowWaterAuction();
+            Auctions.feed(x, script);
+            try {
+                Check.due("script " + script, x.runScript(), executed);
+            } catch (IllegalArgumentException refused) {
+                Check.due("script " + script, "error at " + x.errorPosition(), "no error");
+            }
+            Check.due("script " + script + " errorCode", x.errorCode(), 0);
+        }
+    }
+
     static String times(int count, String text) {
         return text.repeat(count);
     }
