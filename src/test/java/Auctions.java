@@ -1,7 +1,11 @@
 import java.util.ArrayList;
+import java.util.Arrays;
 import java.util.List;
 
-/** What the tests do with auctions again and again. */
+/**
+ * What the tests do with auctions again and again. An object is promised for 512 calls only: state takes up to some
+ * 370 of them, and some 75 of a new object.
+ */
 final class Auctions {
     private Auctions() {
     }
@@ -80,6 +84,13 @@ final class Auctions {
                 .append(' ').append(auction.nods(i));
         }
         return text.toString();
+    }
+
+    /** What of the state most changes show, by a few calls. */
+    static String outline(LowWaterAuction auction) {
+        int[] outline = {auction.minute(), auction.step(), auction.sellerCoins(), auction.openBarrel(), auction.bid(),
+            auction.leader(), auction.quiet(), auction.queueLength(), auction.barrelCount(), auction.coinError()};
+        return Arrays.toString(outline);
     }
 
     private static int four(String text, int from) {

@@ -20,7 +20,7 @@ final class ChangesEdgesTest {
 
     private static void loadSetup() {
         Edges.holds("6", "Parses the input buffer as a setup and replaces the state by it.", ChangesEdgesTest::replacesAll,
-            ChangesEdgesTest::forgetsUnreadRows);
+            ChangesEdgesTest::forgetsGreaterSetup, ChangesEdgesTest::forgetsForecasts);
         Edges.holds("6", "Snapshots and earlier changes stay.", ChangesEdgesTest::snapshotsStay, ChangesEdgesTest::changesStay);
         Edges.holds("6", "The buffer is empty afterwards, even if an exception is thrown.",
             ChangesEdgesTest::bufferAfterSetups);
@@ -97,23 +97,34 @@ final class ChangesEdgesTest {
             + " error 0 barrel -1 bid -1 leader -1 next -1 quiet -1 queue []\nbuyer 100 0 1 0 0");
     }
 
-    /** Rows that a greater setup or a forecast has used must begin anew. */
-    private static void forgetsUnreadRows() {
-        LowWaterAuction x = Auctions.of("market 60 60 1 1 0;" + "buyer 9999 2 999;".repeat(6) + EEL.repeat(20));
-        x.passMinutes(60);
-        x.sellerCoinsAfter(500);
-        Auctions.feed(x, M + "buyer 5 1 1;" + "buyer 6 1 1;" + EEL + EEL);
+    /** What a greater setup has used must begin anew. */
+    private static void forgetsGreaterSetup() {
+        LowWaterAuction x = Auctions.of("market 60 60 1 1 0;" + B + "buyer 9999 2 999;".repeat(5) + EEL.repeat(20));
+        x.passMinutes(200);
+        String two = M + "buyer 5 1 1;" + "buyer 6 1 1;" + EEL + EEL;
+        Auctions.feed(x, two);
         x.loadSetup();
-        Check.due("the second buyer", x.bought(1) + x.nods(1), 0);
-        Check.due("its purse", x.purse(1), 6);
-        Check.due("the second barrel", x.stateOf(1), 0);
-        Check.due("its buyer", x.buyerOf(1), NONE);
-        Check.due("its price", x.priceOf(1), NONE);
+        Check.due("state", Auctions.state(x), Auctions.state(Auctions.of(two)));
         Check.due("a third barrel", x.addBarrel(1, 1, 20), 2);
-        Check.due("its state", x.stateOf(2), 0);
-        Check.due("its buyer", x.buyerOf(2), NONE);
+        Check.due("its eels", Auctions.lengths(x, 2), "[20]");
+        Check.due("its sum", x.totalLength(2), 20);
+        Check.due("its greatest eel", x.greatestLength(2), 20);
         Check.due("its price", x.priceOf(2), NONE);
-        Check.due("its eels", x.totalLength(2), 20);
+    }
+
+    /** A forecast that ends with a leader after a sale, and a wrong setup, must leave nothing for a setup either. */
+    private static void forgetsForecasts() {
+        LowWaterAuction x = new LowWaterAuction();
+        Check.due("coins in minute 6", x.sellerCoinsAfter(6), 20);
+        Auctions.feed(x, Edges.FIRST_SETUP);
+        x.loadSetup();
+        Check.due("after a forecast", Auctions.state(x), Auctions.state(new LowWaterAuction()));
+        Auctions.feed(x, "market 9 9 1 1 0;" + B.repeat(6) + EEL.repeat(20) + "x");
+        Check.dueThrow("a wrong setup", Edges.ARGUMENT, x::loadSetup);
+        Auctions.feed(x, Edges.FIRST_SETUP);
+        x.loadSetup();
+        Check.due("after a wrong setup", Auctions.state(x), Auctions.state(new LowWaterAuction()));
+        Check.due("a forecast after all that", x.sellerCoinsAfter(500), 70);
     }
 
     private static void snapshotsStay() {
@@ -295,6 +306,9 @@ final class ChangesEdgesTest {
 
     private static void noneSold() {
         Check.due("no barrel", Auctions.of(M + B).passMinutes(200), 0);
+        Check.due("a minute of opening", new LowWaterAuction().passMinutes(1), 0);
+        Check.due("a minute of a nod", Edges.opened().passMinutes(1), 0);
+        Check.due("minutes of a closed market", Auctions.of("market 9 1 9 1 0;" + B + EEL).passMinutes(8), 0);
         Check.due("a barrel that is returned", Auctions.of(M + B + EEL).passMinutes(10), 0);
         Check.due("a barrel that is withdrawn", Auctions.of(M + B + EEL).passMinutes(200), 0);
         LowWaterAuction x = Edges.sold();

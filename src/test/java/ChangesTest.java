@@ -25,13 +25,13 @@ final class ChangesTest {
         Check.finish();
     }
 
-    /** The call must throw, and leave the state and the changes that can be undone. */
+    /** The call must throw, and leave the outline of the state and the changes that can be undone. */
     private static void refused(String what, LowWaterAuction x, Class<? extends RuntimeException> want, Check.Call call) {
-        String before = Auctions.state(x);
+        String before = Auctions.outline(x);
         x.setStep(x.step());
         int changes = x.undo();
         Check.dueThrow(what, want, call);
-        Check.due(what + " leaves the state", Auctions.state(x), before);
+        Check.due(what + " leaves the state", Auctions.outline(x), before);
         x.setStep(x.step());
         Check.due(what + " is no change", x.undo(), changes);
     }

@@ -60,7 +60,9 @@ final class Edges {
         String before = seen(x);
         Check.dueThrow(what, want, () -> call.on(x));
         Check.due(what + " leaves all", seen(x), before);
-        Check.due(what + " is no change", undone(x), undone(making.make()));
+        LowWaterAuction twin = making.make();
+        Check.due(what + " is no change", undone(x), undone(twin));
+        Check.due(what + " leaves the buffer", nextLength(x), nextLength(twin));
     }
 
     /** The call is taken back by one undo, and nothing is lost by it. */
@@ -95,10 +97,21 @@ final class Edges {
         }
     }
 
+    /** The length of the input buffer after twenty bytes more, or that they have no room. */
+    static String nextLength(LowWaterAuction x) {
+        try {
+            return String.valueOf(x.append(0, 0, 0, 0, 0));
+        } catch (IllegalStateException full) {
+            return "no room";
+        }
+    }
+
     /** The input buffer must have this length, and keeps it. */
     static void dueBuffered(String what, LowWaterAuction x, int length) {
-        Check.due(what + ": length of the buffer", x.truncate(length), length);
+        // In this order, as truncate would cut a longer buffer to the length that is due.
         Check.dueThrow(what + ": no byte more in the buffer", ARGUMENT, () -> x.truncate(length + 1));
+        Check.dueThrow(what + ": no twenty bytes more in the buffer", ARGUMENT, () -> x.truncate(length + 20));
+        Check.due(what + ": length of the buffer", x.truncate(length), length);
     }
 
     static LowWaterAuction after(LowWaterAuction x, int minutes) {

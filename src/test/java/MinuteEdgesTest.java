@@ -108,7 +108,7 @@ final class MinuteEdgesTest {
         Check.due("returns of a withdrawn barrel", x.returns(0), 0);
         Check.due("nothing waits", x.queueLength(), 0);
         LowWaterAuction y = Auctions.of("market 5 3 1 1 0;" + DULL + EEL + EEL);
-        y.passMinutes(3);
+        Check.due("nothing is sold", y.passMinutes(3), 0);
         Check.due("closed before the horn", y.returns(0), 1);
         Check.due("never opened", y.returns(1), 0);
         Check.due("queue", Auctions.queue(y), "[1, 0]");

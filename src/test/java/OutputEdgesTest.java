@@ -66,6 +66,11 @@ final class OutputEdgesTest {
             Check.due("minute " + minute, x.coinError(), 0);
         }
         Check.due("a purse that could pay only one of two", x.purse(0), 2);
+        LowWaterAuction y = Auctions.of("market 60 60 1 1 50;buyer 4 2 999;" + EEL + "barrel 2 10;");
+        y.passMinutes(8);
+        Check.due("a purse that could just pay both", y.purse(0), 0);
+        Check.due("coins of the house", y.houseCoins(), 1);
+        Check.due("after the last coin", y.coinError(), 0);
     }
 
     private static void coinsOfOtherStates() {

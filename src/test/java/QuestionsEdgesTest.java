@@ -335,9 +335,9 @@ final class QuestionsEdgesTest {
     }
 
     private static void presentStep() {
-        LowWaterAuction x = Auctions.of("market 60 60 1 50 0;buyer 99 2 120;buyer 99 2 120;barrel 8 10;");
-        Check.due("a present step of 50", x.bestStep(500), 1);
-        Check.due("it stays", x.step(), 50);
+        LowWaterAuction x = Auctions.of("market 60 60 1 7 0;buyer 99 2 120;buyer 99 2 120;barrel 8 10;");
+        Check.due("a present step of 7", x.bestStep(500), 1);
+        Check.due("it stays", x.step(), 7);
         Check.due("coins with the present step", x.sellerCoinsAfter(500), 8);
         x.passMinutes(2);
         Check.due("with a leader already", x.bestStep(500), 1);
@@ -345,7 +345,7 @@ final class QuestionsEdgesTest {
     }
 
     private static void nothingChanges() {
-        LowWaterAuction x = Auctions.of("market 60 60 1 50 0;buyer 99 2 120;buyer 99 2 120;barrel 8 10;");
+        LowWaterAuction x = Auctions.of("market 60 60 1 7 0;buyer 99 2 120;buyer 99 2 120;barrel 8 10;");
         x.passMinutes(2);
         x.writeQueue();
         String before = Edges.seen(x);

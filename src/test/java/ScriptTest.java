@@ -1,5 +1,3 @@
-import java.util.NoSuchElementException;
-
 /** Promise 7, runScript, with the grammar of a script. */
 final class ScriptTest {
     private static final String NINE = " 10 10 10 10 10 10 10 10 10";
@@ -90,7 +88,6 @@ final class ScriptTest {
     }
 
     private static void syntaxErrors() {
-        LowWaterAuction x = new LowWaterAuction();
         String[] marked = {
             "|;", "|5", "   |x", "|nods 0;", "|nodz 0;", "|anod 0;", "|xod 0;", "|no 0;", "|NOD 0;", "|fund 0 1;", "nod|", "nod |;", "nod |x;", "nod 0|",
             "nod 0 |0;", "nod 0;|5", "nod 0;|;", "wait 1;|market 5 5 1 1 0;", "wait|#1;", "wait 1|#;", "wait |-1;",
@@ -99,30 +96,23 @@ final class ScriptTest {
             Texts.times(20, "wait 1;") + "|;", Texts.times(20, "wait 1;") + "|waits 1;",
             Texts.times(20, "wait 1;") + "|7", Texts.times(20, "wait 1;") + "  |?",
         };
-        for (String text : marked) {
-            Texts.scriptError(x, Texts.SYNTAX, text);
-        }
-        Check.dueThrow("7 no error is a change", NoSuchElementException.class, x::undo);
+        Texts.badScripts(Texts.SYNTAX, marked);
     }
 
     private static void rangeErrors() {
-        LowWaterAuction x = new LowWaterAuction();
         String[] marked = {
             "nod |3;", "wait |0;", "wait |201;", "wait |00000201;", "wait |4294967297;", "split |20 1;", "split 0 |0;",
             "split 0 |9;", "pay |3 1;", "pay 0 |0;", "pay 0 |10000;", "withdraw |20;", "barrel |0 10;",
             "barrel |1000 10;", "barrel 1 |9;", "barrel 1 |151;", "barrel 1" + NINE + " |151;", "wait |0; x",
             "wait 1; wait |0;",
         };
-        for (String text : marked) {
-            Texts.scriptError(x, Texts.RANGE, text);
-        }
+        Texts.badScripts(Texts.RANGE, marked);
     }
 
     private static void limitErrors() {
-        LowWaterAuction x = new LowWaterAuction();
-        Texts.scriptError(x, Texts.LIMIT, Texts.times(20, "wait 1;") + "|wait 1;");
-        Texts.scriptError(x, Texts.LIMIT, Texts.times(20, "wait 1;") + " |nod");
-        Texts.scriptError(x, Texts.LIMIT, Texts.times(20, "wait 1;") + "|barrel 0;");
-        Texts.scriptError(x, Texts.LIMIT, "barrel 1" + NINE + " |10;");
+        Texts.badScripts(Texts.LIMIT, Texts.times(20, "wait 1;") + "|wait 1;");
+        Texts.badScripts(Texts.LIMIT, Texts.times(20, "wait 1;") + " |nod");
+        Texts.badScripts(Texts.LIMIT, Texts.times(20, "wait 1;") + "|barrel 0;");
+        Texts.badScripts(Texts.LIMIT, "barrel 1" + NINE + " |10;");
     }
 }

@@ -141,7 +141,6 @@ final class SetupTest {
     }
 
     private static void syntaxErrors() {
-        LowWaterAuction x = new LowWaterAuction();
         String[] marked = {
             "|", "   |", "|;", "|5", "|markets 5 5 1 1 0;", "|marke 5 5 1 1 0;", "|zarket 5 5 1 1 0;",
             "|marketz 5 5 1 1 0;", "market|A 5 5 1 1 0;", "market|{ 5 5 1 1 0;", "market 5|/ 5 1 1 0;", "market 5|: 5 1 1 0;", "|mar ket 5 5 1 1 0;", "|Market 5 5 1 1 0;",
@@ -157,14 +156,10 @@ final class SetupTest {
             M + Texts.times(6, B) + "|buyers 0 0 1;", M + B + Texts.times(20, "barrel 1 10;") + "|barrelx",
             M + B + "barrel 1" + NINE + "|x", M + B + "barrel 1" + NINE + "|",
         };
-        for (String text : marked) {
-            Texts.setupError(x, Texts.SYNTAX, text);
-        }
-        Check.dueThrow("6 no error is a change", NoSuchElementException.class, x::undo);
+        Texts.badSetups(Texts.SYNTAX, marked);
     }
 
     private static void rangeErrors() {
-        LowWaterAuction x = new LowWaterAuction();
         String[] marked = {
             "market |4 4 1 1 0;", "market |61 5 1 1 0;", "market 5 |0 1 1 0;", "market 5 |6 1 1 0;",
             "market 60 |61 1 1 0;", "market 5 5 |0 1 0;", "market 5 5 |10 1 0;", "market 5 5 1 |0 0;",
@@ -174,18 +169,15 @@ final class SetupTest {
             M + B + "barrel |0 10;", M + B + "barrel |1000 10;", M + B + "barrel 1 |9;", M + B + "barrel 1 |151;",
             M + B + "barrel 1 10 |9;", M + B + "barrel 1" + NINE + " |9;", M + B + "barrel 1" + NINE + " |151;",
         };
-        for (String text : marked) {
-            Texts.setupError(x, Texts.RANGE, text);
-        }
+        Texts.badSetups(Texts.RANGE, marked);
     }
 
     private static void limitErrors() {
-        LowWaterAuction x = new LowWaterAuction();
-        Texts.setupError(x, Texts.LIMIT, M + Texts.times(6, B) + "|buyer 0 0 1;");
-        Texts.setupError(x, Texts.LIMIT, M + Texts.times(6, B) + " |buyer");
-        Texts.setupError(x, Texts.LIMIT, M + B + Texts.times(20, "barrel 1 10;") + "|barrel 1 10;");
-        Texts.setupError(x, Texts.LIMIT, M + B + Texts.times(20, "barrel 1 10;") + "|barrel 0");
-        Texts.setupError(x, Texts.LIMIT, M + B + "barrel 1" + NINE + " |10;");
-        Texts.setupError(x, Texts.LIMIT, M + B + "barrel 1" + NINE + " |150 x");
+        Texts.badSetups(Texts.LIMIT, M + Texts.times(6, B) + "|buyer 0 0 1;");
+        Texts.badSetups(Texts.LIMIT, M + Texts.times(6, B) + " |buyer");
+        Texts.badSetups(Texts.LIMIT, M + B + Texts.times(20, "barrel 1 10;") + "|barrel 1 10;");
+        Texts.badSetups(Texts.LIMIT, M + B + Texts.times(20, "barrel 1 10;") + "|barrel 0");
+        Texts.badSetups(Texts.LIMIT, M + B + "barrel 1" + NINE + " |10;");
+        Texts.badSetups(Texts.LIMIT, M + B + "barrel 1" + NINE + " |150 x");
     }
 }

@@ -1,3 +1,5 @@
+import java.util.NoSuchElementException;
+
 /** Texts with an error; a bar stands before the token at which the parser must stop. */
 final class Texts {
     static final int SYNTAX = LowWaterAuction.SYNTAX;
@@ -18,14 +20,18 @@ final class Texts {
     /** Each of the setups must be refused by a new object. */
     static void badSetups(int code, String... marked) {
         for (String text : marked) {
-            setupError(new LowWaterAuction(), code, text);
+            LowWaterAuction x = new LowWaterAuction();
+            setupError(x, code, text);
+            Check.dueThrow("6 setup " + text + " is no change", NoSuchElementException.class, x::undo);
         }
     }
 
     /** Each of the scripts must be refused by a new object. */
     static void badScripts(int code, String... marked) {
         for (String text : marked) {
-            scriptError(new LowWaterAuction(), code, text);
+            LowWaterAuction x = new LowWaterAuction();
+            scriptError(x, code, text);
+            Check.dueThrow("7 script " + text + " is no change", NoSuchElementException.class, x::undo);
         }
     }
 

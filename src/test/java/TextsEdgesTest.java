@@ -102,8 +102,9 @@ final class TextsEdgesTest {
     private static void letters() {
         Texts.badSetups(SYNTAX, "|`market 60 60 9 1 0;" + B, "|{market 60 60 9 1 0;" + B, "market|` 60 60 9 1 0;" + B,
             "market|{ 60 60 9 1 0;" + B, "|Market 60 60 9 1 0;" + B, "|MARKET 60 60 9 1 0;" + B, "|amarket 60 60 9 1 0;" + B,
-            "|marketa 60 60 9 1 0;" + B, "|zmarket 60 60 9 1 0;" + B, "|marketz 60 60 9 1 0;" + B);
-        Texts.badScripts(SYNTAX, "|Nod 0;", "wait|_ 1;", "|Z 1;", "|@wait 1;", "wait|[1;");
+            "|marketa 60 60 9 1 0;" + B, "|zmarket 60 60 9 1 0;" + B, "|marketz 60 60 9 1 0;" + B,
+            "market|A 60 60 9 1 0;" + B, "market|Z 60 60 9 1 0;" + B);
+        Texts.badScripts(SYNTAX, "|Nod 0;", "wait|_ 1;", "|Z 1;", "|@wait 1;", "wait|[1;", "wait|A 1;", "wait|Z 1;");
     }
 
     private static void digits() {
@@ -226,6 +227,10 @@ final class TextsEdgesTest {
         Texts.badScripts(SYNTAX, "|no 0;", "|nods 0;", "|wai 1;", "|waits 1;", "|spli 0 1;", "|splits 0 1;", "|pa 0 1;",
             "|pays 0 1;", "|withdra 0;", "|withdraws 0;", "|barre 1 10;", "|barrels 1 10;", "|market 5 5 1 1 0;", "|" + B,
             "|fund 0 1;", "|undo;", "|0;");
+        Texts.badScripts(SYNTAX, "|mod 0;", "|nid 0;", "|noe 0;", "|bait 1;", "|waiu 1;", "|aplit 0 1;", "|splis 0 1;",
+            "|say 0 1;", "|paz 0 1;", "|vithdraw 0;", "|withdrav 0;", "|carrel 1 10;", "|barrem 1 10;");
+        Texts.badSetups(SYNTAX, "|larket 5 5 1 1 0;" + B, "|markes 5 5 1 1 0;" + B, M + "|auyer 0 0 1;", M + "|buyes 0 0 1;",
+            M + B + "|cuyer 0 0 1;", M + B + "|aarrel 1 10;", M + B + "|barrek 1 10;");
     }
 
     // ---- ranges

@@ -297,7 +297,9 @@ final class UndoEdgesTest {
     }
 
     private static void argumentBeforeState() {
+        Edges.refused("addBarrel: no reserve, twenty barrels", Edges.ARGUMENT, Edges::twenty, x -> x.addBarrel(0, 1, 10));
         Edges.refused("addBarrel: no eels, twenty barrels", Edges.ARGUMENT, Edges::twenty, x -> x.addBarrel(1, 0, 10));
+        Edges.refused("addBarrel: length 9, twenty barrels", Edges.ARGUMENT, Edges::twenty, x -> x.addBarrel(1, 1, 9));
         Edges.refused("split: nine eels, open", Edges.ARGUMENT, Edges::opened, x -> x.split(0, 9));
         Edges.refused("split: nine eels, twenty barrels", Edges.ARGUMENT, Edges::twenty, x -> x.split(0, 9));
         Edges.refused("split: no eels, sold", Edges.ARGUMENT, Edges::sold, x -> x.split(0, 0));

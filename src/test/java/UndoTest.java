@@ -14,19 +14,19 @@ final class UndoTest {
     }
 
     private static void everyChange() {
-        LowWaterAuction x = new LowWaterAuction();
-        x.saveSnapshot(0);
-        x.passMinutes(2);
-        x.nod(2);
-        Check.Call[] changes = {
-            () -> x.passMinutes(30), () -> x.nod(0), () -> x.addBarrel(3, 2, 80), () -> x.split(1, 1),
-            () -> x.withdraw(1), () -> x.fund(1, 70), () -> x.setReserve(2, 77), () -> x.setStep(8),
-            () -> x.setTaste(0, 4, 900), () -> x.restoreSnapshot(0), () -> Auctions.run(x, "wait 9; pay 0 4;"),
-            () -> load(x), () -> x.setStep(5), () -> Auctions.run(x, ""),
+        Edges.Call[] changes = {
+            x -> x.passMinutes(30), x -> x.nod(0), x -> x.addBarrel(3, 2, 80), x -> x.split(1, 1),
+            x -> x.withdraw(1), x -> x.fund(1, 70), x -> x.setReserve(2, 77), x -> x.setStep(8),
+            x -> x.setTaste(0, 4, 900), x -> x.restoreSnapshot(0), x -> Auctions.run(x, "wait 9; pay 0 4;"),
+            UndoTest::load, x -> x.setStep(5), x -> Auctions.run(x, ""),
         };
-        String before = Auctions.state(x);
         for (int i = 0; i < changes.length; i++) {
-            changes[i].make();
+            LowWaterAuction x = new LowWaterAuction();
+            x.saveSnapshot(0);
+            x.passMinutes(2);
+            x.nod(2);
+            String before = Auctions.state(x);
+            changes[i].on(x);
             Check.due("17 changes left after change " + i, x.undo(), 2);
             Check.due("17 state after change " + i, Auctions.state(x), before);
         }
